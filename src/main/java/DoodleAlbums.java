@@ -540,7 +540,7 @@ public final class DoodleAlbums {
             return cleared;
         }
 
-        /** Takes an album through one round. The points go to a row of the caller, so that a forecast can count its own. */
+        /** Takes an album through one round. The caller gives the row of points, so that a forecast can count its own. */
         void passOn(Album album, int[] pointRow) {
             int seat = nextSeat(album);
             if (seat == NONE) {
