@@ -236,6 +236,14 @@ public final class BoundariesTest {
         due("page(0, 0, 1)", first.page(0, 0, 1), 3);
         due("of(0, 4)", first.of(0, 4), 3);
 
+        sentence("Albums: behind a word comes a drawing, behind a drawing a word");
+        DoodleAlbums kinds = begun(6, 0, 1, 2, 3, 4, 5, 7);
+        rounds(kinds, 7);
+        due("of(0, 1)", kinds.of(0, 1), 8);
+        for (int page = 0; page < 8; page++) {
+            due("page(0, " + page + ", 1)", kinds.page(0, page, 1), page % 2 == 0 ? 3 : 8);
+        }
+
         sentence("Albums: An album lies at the seat of its last page");
         DoodleAlbums lies = begun(6, 7);
         due("of(0, 2), one page", lies.of(0, 2), 6);
@@ -1533,6 +1541,24 @@ public final class BoundariesTest {
         due("restore(0)", errors.restore(0), NOT_POSSIBLE);
         due("undo()", errors.undo(), NOT_POSSIBLE);
         due("count(8)", errors.count(8), 0);
+
+        sentence("22: and returns no error -- also with six states, at each turn of the history");
+        for (int changes = 6; changes <= 20; changes++) {
+            DoodleAlbums full = fresh();
+            for (int features = 1; features <= changes; features++) full.teach(0, features);
+            refused("leave", full::leave, NOT_POSSIBLE, 0, 7);
+            due("teach(0, 4096)", full.teach(0, 4096), BAD_VALUE);
+            due("sit(8, 0)", full.sit(8, 0), NO_SUCH);
+            due("begin(0, 0)", full.begin(0, 0), NOT_POSSIBLE);
+            due("tell(0, 0)", full.tell(0, 0), NO_SUCH);
+            due("carryOut()", full.carryOut(), BAD_TEXT);
+            due("restore(0)", full.restore(0), NOT_POSSIBLE);
+            for (int undone = 1; undone <= 6; undone++) {
+                due("undo() " + undone + " of " + changes, full.undo(), 6 - undone);
+                due("word(0)", full.word(0), changes == undone ? 5 : changes - undone);
+            }
+            due("undo()", full.undo(), NOT_POSSIBLE);
+        }
 
         sentence("22: An order of a text records nothing by itself");
         DoodleAlbums text = written("+0;+1;b0=1;t0=1;r;-1;r;c;+7");

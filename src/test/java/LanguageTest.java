@@ -5,7 +5,11 @@ import java.lang.reflect.Modifier;
 import java.nio.charset.StandardCharsets;
 import java.nio.file.Files;
 import java.nio.file.Path;
+import java.util.ArrayDeque;
 import java.util.Arrays;
+import java.util.Collections;
+import java.util.Deque;
+import java.util.IdentityHashMap;
 import java.util.Set;
 import java.util.TreeSet;
 import java.util.regex.Matcher;
@@ -20,7 +24,10 @@ public final class LanguageTest {
     public static void main(String[] args) throws Exception {
         face();
         classesInside();
-        words(Files.readString(Path.of(SOURCE), StandardCharsets.UTF_8));
+        String source = Files.readString(Path.of(SOURCE), StandardCharsets.UTF_8);
+        words(source);
+        headings(source);
+        whatIsKept();
         System.out.println(wrong == 0 ? "the rules are kept" : wrong + " rules are broken");
         if (wrong != 0) System.exit(1);
     }
@@ -97,5 +104,60 @@ public final class LanguageTest {
         Set<String> allowed = Set.of("System.arraycopy", "Math.min", "Math.max", "Integer.bitCount");
         while (libraries.find()) rule(allowed.contains(libraries.group()), "4: " + libraries.group());
         rule(source.chars().allMatch(sign -> sign < 128), "4: signs 1 to 127");
+    }
+
+    /** The calls stand in the order of the document, behind what it says ahead of them. */
+    private static void headings(String source) {
+        String[] order = {
+            "---- changes", "teach", "sit", "leave", "begin", "tell", "round", "clear",
+            "---- what there is", "of", "page", "seat", "word", "count",
+            "---- what if; nothing changes", "guess", "foretold", "bestWord", "pointsThen",
+            "---- texts", "put", "wipe", "fault", "carryOut",
+            "---- undo, saving", "undo", "save", "restore"};
+        int behind = source.indexOf("public DoodleAlbums()");
+        for (String next : order) {
+            int place = source.indexOf(next.startsWith("----") ? "// " + next + "\n" : "public int " + next + "(");
+            rule(place > behind, "the order of the document: " + next);
+            behind = place;
+        }
+    }
+
+    /** All is made in the constructor: behind 512 calls an object holds the same objects and arrays, and not many. */
+    private static void whatIsKept() throws Exception {
+        DoodleAlbums x = new DoodleAlbums();
+        Set<Object> before = reached(x);
+        for (int call = 0; call < 64; call++) {
+            x.sit(call % 8, 4095);
+            x.begin(call % 8, call % 16);
+            x.tell(0, 1);
+            x.round();
+            x.put('c');
+            x.carryOut();
+            x.save(call % 2);
+            x.restore(call % 2);
+        }
+        Set<Object> behind = reached(x);
+        rule(before.equals(behind), "12: a call makes objects that are kept");
+        rule(behind.size() < 600, "12: an object holds " + behind.size() + " objects and arrays");
+    }
+
+    private static Set<Object> reached(Object start) throws Exception {
+        Set<Object> reached = Collections.newSetFromMap(new IdentityHashMap<>());
+        Deque<Object> open = new ArrayDeque<>();
+        open.add(start);
+        while (!open.isEmpty()) {
+            Object each = open.remove();
+            if (!reached.add(each) || each.getClass().isArray() && each.getClass().getComponentType().isPrimitive()) continue;
+            if (each instanceof Object[]) {
+                for (Object element : (Object[]) each) if (element != null) open.add(element);
+                continue;
+            }
+            for (Field field : each.getClass().getDeclaredFields()) {
+                if (Modifier.isStatic(field.getModifiers()) || field.getType().isPrimitive()) continue;
+                field.setAccessible(true);
+                if (field.get(each) != null) open.add(field.get(each));
+            }
+        }
+        return reached;
     }
 }
