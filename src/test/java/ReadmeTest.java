@@ -8,8 +8,6 @@ import java.nio.file.Files;
 import java.nio.file.Path;
 import java.util.regex.Matcher;
 import java.util.regex.Pattern;
-import javax.tools.JavaCompiler;
-import javax.tools.ToolProvider;
 
 // The examples of README.md are one program, and each call answers with the number that stands behind it. All methods
 // of the class come up in them. It is run from the project's folder.
@@ -79,10 +77,9 @@ public final class ReadmeTest {
         try {
             Path source = folder.resolve("Examples.java");
             Files.writeString(source, program, StandardCharsets.UTF_8);
-            JavaCompiler compiler = ToolProvider.getSystemJavaCompiler();
-            int failed = compiler.run(null, null, null, "-cp", System.getProperty("java.class.path"),
-                "-d", folder.toString(), source.toString());
-            if (failed != 0) {
+            ProcessBuilder compiler = new ProcessBuilder("javac", "-encoding", "UTF-8",
+                "-cp", System.getProperty("java.class.path"), "-d", folder.toString(), source.toString());
+            if (compiler.inheritIO().start().waitFor() != 0) {
                 System.out.println("the examples do not compile");
                 return 1;
             }
